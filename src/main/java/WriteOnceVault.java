@@ -484,10 +484,10 @@ public final class WriteOnceVault {
             if (!isThere(id)) {
                 return ABSENT;
             }
-            if (!isLive(id)) {
+            if (state[id] != LIVE) {
                 return GONE;
             }
-            return until <= dateOf(id) ? SHORT : ALLOWED;
+            return until <= date[id] ? SHORT : ALLOWED;
         }
 
         private int holdVerdict(int id, int number, boolean set) {
@@ -497,10 +497,10 @@ public final class WriteOnceVault {
             if (!isThere(id)) {
                 return ABSENT;
             }
-            if (!isLive(id)) {
+            if (state[id] != LIVE) {
                 return GONE;
             }
-            boolean isSet = (holdsOf(id) & (1 << number)) != 0;
+            boolean isSet = (holds[id] & (1 << number)) != 0;
             return isSet == set ? SAME : ALLOWED;
         }
 
@@ -511,10 +511,10 @@ public final class WriteOnceVault {
             if (gone) {
                 return GONE;
             }
-            if (holdsOf(id) != 0) {
+            if (holds[id] != 0) {
                 return HELD;
             }
-            return time < dateOf(id) ? EARLY : ALLOWED;
+            return time < date[id] ? EARLY : ALLOWED;
         }
 
         private static boolean isDate(int value) {

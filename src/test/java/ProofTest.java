@@ -5,7 +5,8 @@ import java.util.List;
 public final class ProofTest {
     private static final int[] ODD = {-1, 41, Integer.MAX_VALUE, Integer.MIN_VALUE};
 
-    private final WriteOnceVault vault = new WriteOnceVault();
+    /** Renewed for each row of proofs: an object is used for at most 512 calls. */
+    private WriteOnceVault vault = new WriteOnceVault();
     private final Model model = new Model();
     private final Due due;
 
@@ -94,6 +95,7 @@ public final class ProofTest {
         for (int n = 1; n <= 40; n++) {
             int root = model.tree(0, n);
             for (int i = 0; i < n; i++) {
+                vault = new WriteOnceVault();
                 String call = "15: " + i + " of " + n;
                 List<Integer> row = model.pathRow(0, i, n);
                 due.yes(call, included(row, i, n, root));
@@ -115,6 +117,7 @@ public final class ProofTest {
         for (int n = 1; n <= 40; n++) {
             int late = model.tree(0, n);
             for (int m = 1; m <= n; m++) {
+                vault = new WriteOnceVault();
                 String call = "16: " + m + " of " + n;
                 int early = model.tree(0, m);
                 List<Integer> row = model.bridgeRow(0, m, n, false);
@@ -134,6 +137,7 @@ public final class ProofTest {
     }
 
     private void wrongPlaces() {
+        vault = new WriteOnceVault();
         List<Integer> one = List.of(5);
         for (int v : ODD) {
             due.no("15: place " + v, included(one, v, 3, 5));
@@ -157,6 +161,7 @@ public final class ProofTest {
 
     /** The words need not come from any archive: only what they make counts. */
     private void madeUpWords() {
+        vault = new WriteOnceVault();
         List<Integer> words = List.of(9, -8, 7, -6, 5, -4, 3);
         due.yes("15: made up, left", included(words, 0, 40, Model.rise(words, 0, 40)));
         due.yes("15: made up, right", included(words.subList(0, 5), 39, 40, Model.rise(words.subList(0, 5), 39, 40)));

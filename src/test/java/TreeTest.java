@@ -9,16 +9,20 @@ public final class TreeTest {
 
     public static void main(String[] args) {
         Due due = new Due("TreeTest");
-        TreeTest full = new TreeTest();
-        full.fill();
-        full.roots(due);
-        full.paths(due);
-        full.bridges(due);
-        full.wrongInputs(due);
+        filled().roots(due);
+        filled().paths(due);
+        filled().bridges(due);
+        filled().wrongInputs(due);
         known(due);
         few(due);
         off(due);
         due.end();
+    }
+
+    private static TreeTest filled() {
+        TreeTest test = new TreeTest();
+        test.fill();
+        return test;
     }
 
     /** Forty records, all different, in the class and in the model. */
@@ -62,10 +66,12 @@ public final class TreeTest {
         }
     }
 
+    /** Each row has a vault of its own: an object is used for at most 512 calls. */
     private void row(Due due, String call, List<Integer> row, int i, int n, boolean path) {
+        WriteOnceVault x = filled().vault;
         for (int k = -1; k <= 13; k++) {
             long want = k < 0 || k >= row.size() ? NONE : row.get(k);
-            due.is(call + ", " + k, want, path ? vault.path(i, n, k) : vault.bridge(i, n, k));
+            due.is(call + ", " + k, want, path ? x.path(i, n, k) : x.bridge(i, n, k));
         }
     }
 
