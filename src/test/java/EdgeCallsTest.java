@@ -1,8 +1,9 @@
 import java.util.List;
 
 /**
- * The edges of the promises that are no requests and no proofs (1, 7 to 14, 17 to 19, 21): of each input the last that is
- * allowed and the first that is refused on either side, and that a refused call changes nothing.
+ * The edges of the promises that are no requests and no proofs (1, 7 to 14, 17 to 19, 21): of each
+ * input the last that is allowed and the first that is refused on either side, and that a refused
+ * call changes nothing.
  */
 public final class EdgeCallsTest {
     private static final long NONE = 1L << 40;

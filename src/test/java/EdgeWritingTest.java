@@ -5,7 +5,7 @@
 public final class EdgeWritingTest {
     private static final long NONE = 1L << 40;
     private static final int LOST = -9, OFF = -10;
-    private static final int PUT = 1, SHRED = 6;
+    private static final int PUT = 1, EXTEND = 2, SHRED = 6;
 
     /** Of each kind a request that is allowed after four(), at the clock 7: kind, id, value. */
     private static final int[][] REQUESTS = {
@@ -36,6 +36,7 @@ public final class EdgeWritingTest {
         test.wordsThatDoNotChangeCount();
         test.cutGoesOverRequests();
         test.refusedRequestsDoNotCount();
+        test.refusedBeforeTheFirstWord();
         test.otherCallsDoNotCount();
         test.wipingDoesNotCount();
         test.cutBounds();
@@ -218,6 +219,30 @@ public final class EdgeWritingTest {
         edges.same("cut, words that are written by requests: a refused one writes none", before, refused);
         edges.answers("cut, the last word that can be written", refused, x -> x.extend(1, 21), 0);
         edges.answers("cut, one after these", Edges.then(refused, x -> x.extend(1, 21)), x -> x.extend(1, 22), LOST);
+    }
+
+    /** A refused request writes no word, so the power does not fail in it. */
+    private void refusedBeforeTheFirstWord() {
+        Edges.Calls none = x -> {
+            four(x);
+            x.cut(0);
+        };
+        edges.refused("cut(0), a refused put", none, x -> x.put(1, 1, 1, 6), -4);
+        edges.refused("cut(0), a refused extend", none, x -> x.extend(1, 20), -4);
+        edges.refused("cut(0), a refused hold", none, x -> x.hold(2, 3, true), -5);
+        edges.refused("cut(0), a refused release", none, x -> x.hold(1, 3, false), -5);
+        edges.refused("cut(0), a refused delete", none, x -> x.delete(2), -6);
+        edges.refused("cut(0), a refused shred", none, x -> x.shred(1), -7);
+        Edges.Calls full = Edges.then(EdgeWritingTest::four, x -> {
+            Edges.fillTo(x, 40);
+            x.cut(0);
+        });
+        for (int[] request : REQUESTS) {
+            // What fills the archive moves the date of object 1 on.
+            int id = request[0] == EXTEND ? 3 : request[1];
+            edges.refused("cut(0), forty records are there", full, x -> Edges.request(x, request[0], id, request[2]), -8);
+        }
+        edges.refused("cut(0), the power is off", Edges.then(none, x -> x.power(false)), x -> x.extend(1, 21), OFF);
     }
 
     private void otherCallsDoNotCount() {
