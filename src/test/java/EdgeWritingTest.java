@@ -33,6 +33,7 @@ public final class EdgeWritingTest {
         }
         test.orderOfPut();
         test.orderOfShred();
+        test.shredWithoutItsKeyWord();
         test.wordsThatDoNotChangeCount();
         test.cutGoesOverRequests();
         test.refusedRequestsDoNotCount();
@@ -42,6 +43,7 @@ public final class EdgeWritingTest {
         test.cutBounds();
         test.exactlyFourHundred();
         test.replaced();
+        test.powerDoesNotEndACut();
         test.afterTheFailureNoneIsAhead();
         due.end();
     }
@@ -171,6 +173,26 @@ public final class EdgeWritingTest {
         due.is("the object comes back SHREDDED", 7, x.power(true));
         due.is("the object comes back SHREDDED", 3, x.look(3, 0));
         due.is("the key of a SHREDDED object becomes 0", 0, x.word(282));
+    }
+
+    /** No key is named among what makes a record SOUND: such a shred is done, whatever the key is. */
+    private void shredWithoutItsKeyWord() {
+        for (int id = 3; id <= 4; id++) {
+            for (int key : new int[] {100 + id, 0, -1}) {
+                WriteOnceVault x = Edges.made(EdgeWritingTest::four);
+                x.cut(7);
+                String what = "a shred of " + id + " that was cut off before its key word, the key being " + key;
+                due.is(what, LOST, x.shred(id));
+                due.yes(what + ": the power is off", x.alter(279 + id, key));
+                due.is(what + " is sound", 7, x.audit(0, 0));
+                due.is(what + ": audit changes nothing", key, x.word(279 + id));
+                due.is(what + " comes back", 7, x.power(true));
+                due.is(what + ": SHREDDED", 3, x.look(id, 0));
+                due.is(what + ": the key becomes 0", 0, x.word(279 + id));
+                due.is(what + ": the other keys stay", 102, x.word(281));
+                due.is(what + ": GONE", -3, x.shred(id));
+            }
+        }
     }
 
     /** VALUE, C0, C1 and TIME are 0 here, as they were: they are written and counted all the same. */
@@ -343,6 +365,24 @@ public final class EdgeWritingTest {
             x.power(false);
             x.cut(-1);
         });
+    }
+
+    /** Words are counted by requests alone: the power going off and on takes none away and adds none. */
+    private void powerDoesNotEndACut() {
+        for (int n : new int[] {-1, 0, 1, 6, 7, 8, 14, 400}) {
+            WriteOnceVault x = Edges.made(EdgeWritingTest::four);
+            x.cut(n);
+            due.is("20: cut(" + n + "), the power off", 6, x.power(false));
+            due.is("20: cut(" + n + "), a request while it is off", OFF, x.extend(1, 30));
+            due.is("20: cut(" + n + "), the power on", 6, x.power(true));
+            due.is("20: cut(" + n + ") is ahead still", n, Edges.wordsLeft(x));
+        }
+        WriteOnceVault x = Edges.made(EdgeWritingTest::four);
+        x.cut(10);
+        due.is("20: seven of ten words", 0, x.extend(1, 30));
+        x.power(false);
+        x.power(true);
+        due.is("20: three of ten words are left", 3, Edges.wordsLeft(x));
     }
 
     private void afterTheFailureNoneIsAhead() {
